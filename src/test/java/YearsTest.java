@@ -43,6 +43,8 @@ public final class YearsTest {
         due.is("who has just enough is not hungry", Due.pad(x, "..").judge(3), 2);
         x.land(0, 2, 1);
         due.is("who has one less is", Due.pad(x, "..").judge(3), 3);
+        x.land(2, 1, 2);
+        due.is("who eats again is hungry", Due.pad(x, "..").judge(3), 4);
         due.is("who is lent to is not", Due.pad(x, ".fc1.").judge(3), 3);
     }
 
