@@ -381,7 +381,7 @@ public final class RingShadow {
     }
 
     public int image(int k) {
-        if (!within(k, 0, IMAGES - 1) || k >= images.length) {
+        if (k < 0 || k >= images.length) {
             return OUTSIDE;
         }
         World kept = images[k];
@@ -394,7 +394,7 @@ public final class RingShadow {
     }
 
     public int restore(int k) {
-        if (!within(k, 0, IMAGES - 1) || k >= images.length) {
+        if (k < 0 || k >= images.length) {
             return OUTSIDE;
         }
         World kept = images[k];

@@ -209,6 +209,7 @@ public final class LandsTest {
         Due.say(x, ":");
         String kept = Due.all(x);
         int laws = x.laws(-1);
+        int law = x.laws(70);
         due.is("image(1)", x.image(1), 1);
         due.holds("nothing changed", kept.equals(Due.all(x)));
         due.is("restore(0)", x.restore(0), RingShadow.STATE);
@@ -224,6 +225,7 @@ public final class LandsTest {
         due.is("restore(1)", x.restore(1), 1);
         due.holds("all as it was", kept.equals(Due.all(x)));
         due.is("the sight as it was", x.laws(-1), laws);
+        due.is("the sight as it was", x.laws(70), law);
         Due.say(x, "ab");
         due.is("restore(1)", x.restore(1), 1);
         due.is("the pad stays", x.told(0), 3);

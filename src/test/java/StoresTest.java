@@ -139,9 +139,25 @@ public final class StoresTest {
         due.is("one too few", x.carry(1), RingShadow.NONE);
         x.land(4, 1, 0);
         due.is("for the most years", x.carry(40), 0);
+        carryFromFullLands(x);
         for (int m : new int[] {0, -1, 41, MIN, MAX}) {
             due.is("carry(" + m + ")", x.carry(m), RingShadow.OUTSIDE);
         }
+    }
+
+    private static void carryFromFullLands(RingShadow x) {
+        for (int k = 0; k < 9; k++) {
+            x.land(k, 3, 99);
+            x.land(k, 2, k == 8 ? 79 : 99);
+        }
+        x.land(8, 1, 20);
+        due.is("what is there is enough", x.carry(3), 0);
+        due.is("one is wanted", x.carry(4), 1);
+        x.land(8, 2, 0);
+        due.is("eighty are wanted", x.carry(4), 80);
+        due.is("a hundred can not be kept", x.carry(5), RingShadow.NONE);
+        x.land(8, 2, 99);
+        due.is("all full", x.carry(4), 0);
     }
 
     private static void paced() {

@@ -88,6 +88,10 @@ public final class WalksTest {
         due.is("a year later", x.meet(0, 1, 0), 1);
         due.is("the other way round", x.meet(1, 0, 0), 1);
         due.is("from the last year on", x.meet(1, 2, 99999), 100000);
+        x.set(2, 10);
+        // dark are 0, 1 in year 8, and in year 9, since 1 has a slit, 2 alone
+        due.is("one can not go on", x.meet(0, 1, 8), RingShadow.NONE);
+        x.set(2, 0);
         x.lands(9, 8);
         due.is("from both ends", x.meet(0, 7, 0), 4);
         for (int k : new int[] {-1, 9, MIN, MAX}) {
@@ -210,6 +214,12 @@ public final class WalksTest {
         x.land(3, 3, 50);
         // lit at first, it has 5 and then 3 at least
         fraction(x, 3, 5, 3, new long[] {3, 4});
+        x.land(3, 3, 99);
+        x.land(3, 2, 99);
+        x.land(3, 1, 9);
+        // eleven meals of 9 are all that it has
+        fraction(x, 3, 10, 11, new long[] {1, 1});
+        fraction(x, 3, 10, 12, new long[] {0, 1});
         x.lands(2, 1);
         Due.pad(x, ".").done();
         fraction(x, 0, 1, 1, new long[] {9, 10});
@@ -253,6 +263,7 @@ public final class WalksTest {
         due.is("ten years", x.rent(4, 0, 10, 1), 4);
         due.is("eleven years", x.rent(4, 0, 11, 1), 8);
         due.is("ahead of t too", x.rent(4, 5, 1, 3), 12);
+        due.is("a whole period", x.rent(4, 10, 10, 1), 8);
         due.is("9999 years", x.rent(4, 0, 9999, 99), 99 * 4 * 1999);
         due.is("from the last on", x.rent(4, 99999, 9999, 1), 4 * 2000);
         due.is("for nothing", x.rent(4, 0, 9999, 0), 0);
