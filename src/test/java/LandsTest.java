@@ -1,6 +1,5 @@
 /** Promises 1 to 7 and 32 to 34: a new object, its lands, its pad, images, what is told. */
 public final class LandsTest {
-    private static final int MIN = Integer.MIN_VALUE, MAX = Integer.MAX_VALUE;
     private static final Due due = new Due();
 
     public static void main(String[] args) {
@@ -38,15 +37,8 @@ public final class LandsTest {
     private static void lands() {
         due.promise(2, "lands");
         RingShadow x = new RingShadow();
-        int[][] wrong = {{1, 1}, {10, 2}, {2, 2}, {9, 9}, {6, 0}, {6, -1}, {6, 6}, {6, 7}, {0, 0}, {MIN, 1}, {MAX, 1},
-            {5, MIN}, {5, MAX}};
         x.land(0, 2, 9);
         x.seen(1, 1, true);
-        String before = Due.all(x);
-        for (int[] w : wrong) {
-            due.is("lands(" + w[0] + ", " + w[1] + ")", x.lands(w[0], w[1]), RingShadow.OUTSIDE);
-        }
-        due.holds("nothing changed", before.equals(Due.all(x)));
         x.set(0, 4);
         x.set(1, 33);
         x.set(2, 7);
@@ -85,18 +77,11 @@ public final class LandsTest {
             due.is("least", x.set(which, least[which]), first[which]);
             due.is("most", x.set(which, most[which]), least[which]);
             due.is("most again", x.set(which, most[which]), most[which]);
-            int[] wrong = {which == 0 ? 0 : -1, most[which] + 1, MIN, MAX};
-            for (int v : wrong) {
-                due.is("set(" + which + ", " + v + ")", x.set(which, v), RingShadow.OUTSIDE);
-            }
             due.is("told", x.told(3 + which), most[which]);
         }
         due.is("set(2, 1)", x.set(2, 1), RingShadow.OUTSIDE);
         due.is("set(2, 0)", x.set(2, 0), 20);
         due.is("told(5)", x.told(5), 0);
-        for (int which : new int[] {-1, 5, MIN, MAX}) {
-            due.is("set(" + which + ", 1)", x.set(which, 1), RingShadow.OUTSIDE);
-        }
     }
 
     private static void land() {
@@ -108,17 +93,6 @@ public final class LandsTest {
             due.is("land(5, " + what + ")", x.land(5, what, most[what]), first[what]);
             due.is("told", x.told(60 + what), most[what]);
             due.is("told of another", x.told(50 + what), first[what]);
-            due.is("below", x.land(5, what, -1), RingShadow.OUTSIDE);
-            due.is("above", x.land(5, what, what < 2 ? 21 : 100), RingShadow.OUTSIDE);
-            due.is("far below", x.land(5, what, MIN), RingShadow.OUTSIDE);
-            due.is("far above", x.land(5, what, MAX), RingShadow.OUTSIDE);
-            due.is("told", x.told(60 + what), most[what]);
-        }
-        for (int k : new int[] {-1, 6, MIN, MAX}) {
-            due.is("land(" + k + ", 9, 999)", x.land(k, 9, 999), RingShadow.UNKNOWN);
-        }
-        for (int what : new int[] {-1, 4, MIN, MAX}) {
-            due.is("land(0, " + what + ", 1)", x.land(0, what, 1), RingShadow.OUTSIDE);
         }
         due.is("STORE above CAP", x.land(0, 2, 51), RingShadow.STATE);
         due.is("STORE above all", x.land(0, 2, 100), RingShadow.OUTSIDE);
@@ -140,9 +114,6 @@ public final class LandsTest {
     private static void sayAndWipe() {
         due.promise(5, "say");
         RingShadow x = new RingShadow();
-        for (int sign : new int[] {32, 127, 0, -1, 300, 65536 + 46, MIN, MAX}) {
-            due.is("say(" + sign + ")", x.say(sign), RingShadow.OUTSIDE);
-        }
         due.is("told(0)", x.told(0), 0);
         due.is("say(33)", x.say(33), 1);
         due.is("say(126)", x.say(126), 2);
@@ -191,10 +162,6 @@ public final class LandsTest {
     private static void images() {
         due.promise(32, "image");
         RingShadow x = new RingShadow();
-        for (int k : new int[] {-1, 2, MIN, MAX}) {
-            due.is("image(" + k + ")", x.image(k), RingShadow.OUTSIDE);
-            due.is("restore(" + k + ")", x.restore(k), RingShadow.OUTSIDE);
-        }
         due.is("restore(1)", x.restore(1), RingShadow.STATE);
         x.lands(7, 3);
         for (int which = 0; which < 5; which++) {
@@ -258,9 +225,6 @@ public final class LandsTest {
             int kind = what % 10;
             int want = kind > 3 ? RingShadow.OUTSIDE : kind == 3 ? 90 + k : 2 * k + kind;
             due.is("told(" + what + ")", x.told(what), want);
-        }
-        for (int what : new int[] {-1, -10, 100, 101, 1000, MIN, MAX}) {
-            due.is("told(" + what + ")", x.told(what), RingShadow.OUTSIDE);
         }
         x.lands(2, 1);
         due.is("told(20)", x.told(20), 3);

@@ -1,4 +1,3 @@
-import java.lang.reflect.Method;
 import java.util.ArrayList;
 import java.util.List;
 import java.util.Random;
@@ -184,35 +183,13 @@ public final class ModelTest {
     }
 
     private boolean compare(String call, int[] a) {
-        long got = ask(fast, call, a);
-        long want = ask(slow, call, a);
+        long got = Calls.ask(fast, call, a);
+        long want = Calls.ask(slow, call, a);
         StringBuilder text = new StringBuilder(call).append('(');
         for (int i = 0; i < a.length; i++) {
             text.append(i == 0 ? "" : ", ").append(a[i]);
         }
         history.add(text.append(") answered ").append(got).append(got == want ? "" : ", due is " + want).toString());
         return got == want;
-    }
-
-    private static long ask(Object ring, String call, int[] a) {
-        for (Method method : ring.getClass().getDeclaredMethods()) {
-            if (method.getName().equals(call) && method.getParameterCount() == a.length) {
-                return answer(ring, method, a);
-            }
-        }
-        throw new IllegalStateException("no call " + call);
-    }
-
-    private static long answer(Object ring, Method method, int[] a) {
-        Object[] values = new Object[a.length];
-        for (int i = 0; i < a.length; i++) {
-            boolean isFlag = method.getParameterTypes()[i] == boolean.class;
-            values[i] = isFlag ? (Object) (a[i] == 1) : (Object) a[i];
-        }
-        try {
-            return ((Number) method.invoke(ring, values)).longValue();
-        } catch (ReflectiveOperationException e) {
-            throw new IllegalStateException(method.getName() + " threw", e);
-        }
     }
 }

@@ -1,8 +1,5 @@
 /** Promises 22 to 31: walks, laws, dust, rents, ages by draws. */
 public final class WalksTest {
-    private static final int MIN = Integer.MIN_VALUE, MAX = Integer.MAX_VALUE;
-    private static final long UNKNOWN_FRACTION = -1000000000000000001L;
-    private static final long OUTSIDE_FRACTION = -1000000000000000002L;
     private static final Due due = new Due();
 
     public static void main(String[] args) {
@@ -13,7 +10,6 @@ public final class WalksTest {
         laws();
         look();
         dust();
-        dustRefused();
         rent();
         age();
         due.end("WalksTest");
@@ -39,20 +35,6 @@ public final class WalksTest {
         // of 1107 rows of eight steps one would go by land 8
         due.is("eight years", x.ways(4, 4, 0, 8), 1106);
         due.is("the longest walk", x.ways(4, 4, 0, 30), 12491519907814L);
-        refusedWalks(x);
-    }
-
-    private static void refusedWalks(RingShadow x) {
-        for (int k : new int[] {-1, 9, MIN, MAX}) {
-            due.is("ways(" + k + ", 0, -1, -1)", x.ways(k, 0, -1, -1), UNKNOWN_FRACTION);
-            due.is("ways(0, " + k + ", -1, -1)", x.ways(0, k, -1, -1), UNKNOWN_FRACTION);
-        }
-        for (int t : new int[] {-1, 100000, MIN, MAX}) {
-            due.is("ways(0, 0, " + t + ", 0)", x.ways(0, 0, t, 0), OUTSIDE_FRACTION);
-        }
-        for (int m : new int[] {-1, 31, MIN, MAX}) {
-            due.is("ways(0, 0, 0, " + m + ")", x.ways(0, 0, 0, m), OUTSIDE_FRACTION);
-        }
     }
 
     private static void where() {
@@ -68,15 +50,6 @@ public final class WalksTest {
         due.is("where(1, 99999, 30)", x.where(1, 99999, 30), 48 >> 1);
         x.lands(9, 8);
         due.is("the ninth", x.where(8, 1, 0), 256);
-        for (int k : new int[] {-1, 9, MIN, MAX}) {
-            due.is("where(" + k + ", -1, -1)", x.where(k, -1, -1), RingShadow.UNKNOWN);
-        }
-        for (int t : new int[] {-1, 100000, MIN, MAX}) {
-            due.is("where(0, " + t + ", 0)", x.where(0, t, 0), RingShadow.OUTSIDE);
-        }
-        for (int m : new int[] {-1, 31, MIN, MAX}) {
-            due.is("where(0, 0, " + m + ")", x.where(0, 0, m), RingShadow.OUTSIDE);
-        }
     }
 
     private static void meet() {
@@ -94,24 +67,11 @@ public final class WalksTest {
         x.set(2, 0);
         x.lands(9, 8);
         due.is("from both ends", x.meet(0, 7, 0), 4);
-        for (int k : new int[] {-1, 9, MIN, MAX}) {
-            due.is("meet(" + k + ", 0, -1)", x.meet(k, 0, -1), RingShadow.UNKNOWN);
-            due.is("meet(0, " + k + ", -1)", x.meet(0, k, -1), RingShadow.UNKNOWN);
-        }
-        for (int t : new int[] {-1, 100000, MIN, MAX}) {
-            due.is("meet(0, 1, " + t + ")", x.meet(0, 1, t), RingShadow.OUTSIDE);
-        }
     }
 
     private static void seenAndForget() {
         due.promise(25, "seen");
         RingShadow x = new RingShadow();
-        for (int k : new int[] {-1, 6, MIN, MAX}) {
-            due.is("seen(" + k + ", -1)", x.seen(k, -1, true), RingShadow.UNKNOWN);
-        }
-        for (int t : new int[] {-1, 10000, MIN, MAX}) {
-            due.is("seen(0, " + t + ")", x.seen(0, t, true), RingShadow.OUTSIDE);
-        }
         for (int i = 1; i <= 8; i++) {
             due.is("one more", x.seen(5, 9999, i % 2 == 0), i);
         }
@@ -134,7 +94,7 @@ public final class WalksTest {
         RingShadow x = new RingShadow();
         x.lands(2, 1);
         int[][] rows = {{-1, 90}, {0, 1100}, {1, 1101}, {2, 1200}, {89, 1917}, {90, RingShadow.NONE},
-            {-2, RingShadow.NONE}, {MIN, RingShadow.NONE}, {MAX, RingShadow.NONE}};
+            {-2, RingShadow.NONE}};
         for (int[] r : rows) {
             due.is("laws(" + r[0] + ")", x.laws(r[0]), r[1]);
         }
@@ -174,12 +134,6 @@ public final class WalksTest {
         x.seen(0, 0, false);
         due.is("no laws", x.look(0, 0), RingShadow.NONE);
         due.is("no laws", x.look(0, 1), RingShadow.NONE);
-        for (int t : new int[] {-1, 100000, MIN, MAX}) {
-            due.is("look(" + t + ", 0)", x.look(t, 0), RingShadow.OUTSIDE);
-        }
-        for (int what : new int[] {-1, 2, MIN, MAX}) {
-            due.is("look(0, " + what + ")", x.look(0, what), RingShadow.OUTSIDE);
-        }
         x.lands(3, 1);
         x.seen(0, 0, true);
         due.is("not land 0, which is known", x.look(0, 0), 1);
@@ -234,22 +188,6 @@ public final class WalksTest {
         fraction(x, 8, 1, 12, new long[] {21L * 31381059609L, 1000000000000L});
     }
 
-    private static void dustRefused() {
-        RingShadow x = new RingShadow();
-        for (int k : new int[] {-1, 6, MIN, MAX}) {
-            due.is("dust(" + k + ", -1, -1, -1)", x.dust(k, -1, -1, -1), UNKNOWN_FRACTION);
-        }
-        for (int c : new int[] {-1, 11, MIN, MAX}) {
-            due.is("dust(0, " + c + ", 1, 0)", x.dust(0, c, 1, 0), OUTSIDE_FRACTION);
-        }
-        for (int m : new int[] {-1, 13, MIN, MAX}) {
-            due.is("dust(0, 1, " + m + ", 0)", x.dust(0, 1, m, 0), OUTSIDE_FRACTION);
-        }
-        for (int part : new int[] {-1, 2, MIN, MAX}) {
-            due.is("dust(0, 1, 1, " + part + ")", x.dust(0, 1, 1, part), OUTSIDE_FRACTION);
-        }
-    }
-
     private static void rent() {
         due.promise(30, "rent");
         RingShadow x = new RingShadow();
@@ -277,18 +215,6 @@ public final class WalksTest {
         x.set(2, 2);
         x.set(4, 0);
         due.is("lit before the slit", x.rent(0, 1, 99, 1), 0);
-        for (int k : new int[] {-1, 6, MIN, MAX}) {
-            due.is("rent(" + k + ", -1, -1, -1)", x.rent(k, -1, -1, -1), RingShadow.UNKNOWN);
-        }
-        for (int t : new int[] {-1, 100000, MIN, MAX}) {
-            due.is("rent(0, " + t + ", 1, 1)", x.rent(0, t, 1, 1), RingShadow.OUTSIDE);
-        }
-        for (int m : new int[] {-1, 10000, MIN, MAX}) {
-            due.is("rent(0, 0, " + m + ", 1)", x.rent(0, 0, m, 1), RingShadow.OUTSIDE);
-        }
-        for (int v : new int[] {-1, 100, MIN, MAX}) {
-            due.is("rent(0, 0, 1, " + v + ")", x.rent(0, 0, 1, v), RingShadow.OUTSIDE);
-        }
     }
 
     private static void age() {
@@ -313,14 +239,5 @@ public final class WalksTest {
         due.is("it can not be kept", x.age(1, 1, 2), 0);
         due.is("nothing is done", x.told(8), 0);
         due.is("nothing is lent", x.told(62), 2);
-        for (int seed : new int[] {-1, 10000, MIN, MAX}) {
-            due.is("age(" + seed + ", 1, 0)", x.age(seed, 1, 0), RingShadow.OUTSIDE);
-        }
-        for (int m : new int[] {0, -1, 100, MIN, MAX}) {
-            due.is("age(0, " + m + ", 0)", x.age(0, m, 0), RingShadow.OUTSIDE);
-        }
-        for (int what : new int[] {-1, 3, MIN, MAX}) {
-            due.is("age(0, 1, " + what + ")", x.age(0, 1, what), RingShadow.OUTSIDE);
-        }
     }
 }
