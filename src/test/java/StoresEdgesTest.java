@@ -145,6 +145,11 @@ public final class StoresEdgesTest {
         Scene full = Scene.of("lands(9, 1)").each(9, "land(%d, 3, 99)").each(9, "land(%d, 2, 99)");
         due.still(full, 0, "carry(1)", "carry(40)");
         due.still(full.and("land(0, 2, 0)", "land(0, 1, 20)"), 20, "carry(1)");
+        // 9 times 11 is all that can be kept, and one is missing
+        Scene most = full.and("land(8, 0, 0)", "land(8, 1, 11)");
+        due.still(most, 0, "carry(9)");
+        due.still(most.and("land(8, 2, 98)"), 1, "carry(9)");
+        due.still(most.and("land(8, 2, 98)"), NONE, "carry(10)");
     }
 
     private static void paced() {

@@ -260,6 +260,11 @@ public final class WalksEdgesTest {
         // what is above CAP is lost
         fraction(lit.and("land(5, 0, 4)"), "5, 5, 2", 1, 2);
         fraction(lit.and("land(5, 0, 4)", "land(5, 3, 1)"), "5, 5, 2", 1, 4);
+        // a STORE of 99, year by year
+        Scene full = lit.and("land(5, 1, 0)", "land(5, 3, 99)", "land(5, 2, 99)");
+        fraction(full, "5, 5, 1", 1, 1);
+        fraction(full, "5, 5, 2", 1, 1);
+        fraction(full.and("land(5, 1, 1)"), "5, 5, 1", 1, 1);
         // from now on
         fraction(NEW.pad(".").and("done()"), "0, 0, 1", 1, 1);
     }
@@ -289,7 +294,8 @@ public final class WalksEdgesTest {
         due.promise(30, "rent");
         // land 4 has a slit in each fifth year
         Scene fifth = NIGHT.and("set(2, 5)", "set(4, 0)");
-        due.still(fifth, 0, "rent(4, 5, 0, 99)", "rent(4, 5, 1, 0)", "rent(4, 0, 5, 99)", "rent(4, 6, 4, 99)");
+        due.still(fifth, 0, "rent(4, 5, 0, 99)", "rent(4, 5, 1, 0)", "rent(4, 0, 5, 99)", "rent(4, 6, 4, 99)",
+            "rent(4, 11, 4, 99)", "rent(4, 99996, 4, 99)");
         due.still(fifth, 4, "rent(4, 5, 1, 1)", "rent(4, 0, 6, 1)", "rent(4, 1, 9, 1)", "rent(4, 99999, 5, 1)");
         due.still(fifth, 8, "rent(4, 5, 6, 1)");
         due.still(fifth, 99 * 4, "rent(4, 5, 1, 99)");
@@ -314,6 +320,9 @@ public final class WalksEdgesTest {
             Scene scene = Scene.of("lands(9, 8)", "set(2, 11)", "set(4, " + (11 - year) + ")");
             due.still(scene, Math.min(9, year), "rent(1, " + year + ", 1, 1)", "rent(1, 0, " + (year + 1) + ", 1)");
             due.still(scene, 9, "rent(1, " + (year + 11) + ", 1, 1)");
+            int later = (9998 - year) / 11;
+            due.still(scene, Math.min(9, year) + 9 * later, "rent(1, 0, 9999, 1)");
+            due.still(scene, 9 * later, "rent(1, " + (year + 1) + ", " + (9998 - year) + ", 1)");
         }
         // right ahead of it, one behind another: it was lit, since not covered, in the year before
         Scene even = Scene.of("set(2, 2)", "set(4, 0)");
@@ -363,7 +372,8 @@ public final class WalksEdgesTest {
         // of six, 74 is nothing; 5624 is 2 to 0 five; 28652, what 421874 leaves over, is 2 to 3 four
         Scene six = NEW.each(6, "land(%d, 0, 0)").each(6, "land(%d, 1, 0)");
         due.still(six.and("land(2, 2, 9)"), 0, "age(0, 1, 2)");
-        due.still(six.and("land(2, 2, 9)"), 1, "age(0, 2, 2)");
+        due.still(six.and("land(2, 2, 5)"), 1, "age(0, 2, 2)");
+        due.still(six.and("land(2, 2, 4)"), 0, "age(0, 2, 2)");
         due.still(six.and("land(2, 2, 9)"), 2, "age(0, 3, 2)");
         due.still(six.and("land(2, 2, 8)"), 1, "age(0, 3, 2)");
         due.still(six.and("land(2, 2, 9)", "land(3, 3, 3)"), 1, "age(0, 3, 2)");
