@@ -4,7 +4,7 @@ import java.lang.reflect.Method;
 final class Calls {
     private Calls() { }
 
-    /** A call as it is written, such as "next(0, MAX, true)"; MIN and MAX are the ends of int. */
+    /** A call as it is written, such as "next(0, MAX, true)" or "say('a')"; MIN and MAX are the ends of int. */
     static long ask(Object ring, String call) {
         int open = call.indexOf('(');
         String inside = call.substring(open + 1, call.length() - 1);
@@ -22,7 +22,7 @@ final class Calls {
             case "MAX": return Integer.MAX_VALUE;
             case "true": return 1;
             case "false": return 0;
-            default: return Integer.parseInt(word);
+            default: return word.startsWith("'") ? word.charAt(1) : Integer.parseInt(word);
         }
     }
 

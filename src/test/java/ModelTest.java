@@ -2,7 +2,7 @@ import java.util.ArrayList;
 import java.util.List;
 import java.util.Random;
 
-/** Random runs of calls on RingShadow and on SlowRing, which must answer alike. */
+/** Random runs of calls, some as long as an object is used, on RingShadow and on SlowRing, which must answer alike. */
 public final class ModelTest {
     private static final String[] CALLS = {"lands", "set", "land", "say", "wipe", "fault", "judge", "behind", "done",
         "lit", "covered", "lits", "next", "longest", "hungry", "needs", "carry", "paced", "strike", "strikes", "ways",
@@ -10,12 +10,19 @@ public final class ModelTest {
     private static final int[] EXTREMES = {Integer.MIN_VALUE, Integer.MIN_VALUE + 1, -1000, -10, -7, -6, -5, -4, -3,
         -2, -1, 0, 1, 100, 1000, 65536, 100000, 100001, 1 << 30, Integer.MAX_VALUE - 1, Integer.MAX_VALUE};
     private static final int RUNS = 6000;
+    /** An object is used for so many calls at most; the last of them ask for all that is told. */
+    private static final int LIFE = 512;
+    private static final int TOLD = 94;
+    /** No row of calls that belong together is longer. */
+    private static final int ROW = 30;
 
     private final Random random;
     private final RingShadow fast = new RingShadow();
     private final SlowRing slow = new SlowRing();
     private final List<String> history = new ArrayList<>();
     private int lands = 6;
+    private int made;
+    private boolean allAlike = true;
 
     private ModelTest(long seed) {
         random = new Random(seed);
@@ -40,8 +47,8 @@ public final class ModelTest {
 
     private boolean goOn(int[] often) {
         begin();
-        int calls = 20 + random.nextInt(60);
-        for (int i = 0; i < calls; i++) {
+        int calls = random.nextInt(20) == 0 ? LIFE : 20 + random.nextInt(60);
+        for (int i = 0; i < calls && made + ROW + TOLD <= LIFE; i++) {
             int call = random.nextInt(CALLS.length);
             if (CALLS[call].equals("lands") && random.nextInt(4) != 0) {
                 call = 1 + random.nextInt(3);
@@ -51,12 +58,12 @@ public final class ModelTest {
                 return false;
             }
         }
-        for (int what = 0; what < 94; what++) {
+        for (int what = 0; what < TOLD; what++) {
             if (!compare("told", new int[] {what})) {
                 return false;
             }
         }
-        return true;
+        return allAlike;
     }
 
     /** Lands and a shadow of all shapes, each as likely. */
@@ -95,6 +102,7 @@ public final class ModelTest {
         }
         boolean alike = compare(call, a);
         lands = fast.told(1);
+        made++;
         return alike;
     }
 
@@ -127,6 +135,7 @@ public final class ModelTest {
         int t = random.nextInt(random.nextBoolean() ? 50 : 10000);
         int first = fast.covered(t);
         boolean covered = land >= first && land < first + fast.told(2);
+        made += 2;
         return compare("seen", new int[] {land, t, covered ? 1 : 0});
     }
 
@@ -183,6 +192,7 @@ public final class ModelTest {
     }
 
     private boolean compare(String call, int[] a) {
+        made++;
         long got = Calls.ask(fast, call, a);
         long want = Calls.ask(slow, call, a);
         StringBuilder text = new StringBuilder(call).append('(');
@@ -190,6 +200,7 @@ public final class ModelTest {
             text.append(i == 0 ? "" : ", ").append(a[i]);
         }
         history.add(text.append(") answered ").append(got).append(got == want ? "" : ", due is " + want).toString());
+        allAlike &= got == want;
         return got == want;
     }
 }
